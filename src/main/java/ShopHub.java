@@ -515,7 +515,7 @@ public final class ShopHub {
     private boolean looksChanged(int good, int shop) {
         int first = shop * SIGHTS_PER_SHOP + good * SIGHTS_PER_GOOD;
         for (int sight = 0; sight < SIGHTS_PER_GOOD; sight++) {
-            if (seen[first + sight] != findSight(good, shop, sight)) {
+            if (seen[first + sight] != findValue(good, sight / TONGUES, shop, sight % TONGUES)) {
                 return true;
             }
         }
@@ -525,11 +525,7 @@ public final class ShopHub {
     private void rememberSights(int good, int shop) {
         int first = shop * SIGHTS_PER_SHOP + good * SIGHTS_PER_GOOD;
         for (int sight = 0; sight < SIGHTS_PER_GOOD; sight++) {
-            seen[first + sight] = findSight(good, shop, sight);
+            seen[first + sight] = findValue(good, sight / TONGUES, shop, sight % TONGUES);
         }
-    }
-
-    private int findSight(int good, int shop, int sight) {
-        return findValue(good, sight / TONGUES, shop, sight % TONGUES);
     }
 }

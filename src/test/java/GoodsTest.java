@@ -131,6 +131,10 @@ public final class GoodsTest {
         Check.due(0, "a good with a child up to level 0", () -> hub.move(1, -1));
         Check.illegalState("a leaf below a leaf at level 2", () -> hub.move(2, 4));
         Check.due(1, "a leaf from a tree to another", () -> hub.move(2, 3));
+        ShopHub turned = hubWith(-1, -1, -1, 2);
+        turned.move(0, 1);
+        Check.illegalState("good 0 below counts too", () -> turned.move(1, 3));
+        Check.due(-1, "one level higher it fits", () -> turned.move(1, 2));
         ShopHub wide = hubWith(-1, 0, 0, 2, -1);
         Check.illegalState("the deepest of several children counts", () -> wide.move(0, 4));
         wide.delete(3);
@@ -170,6 +174,14 @@ public final class GoodsTest {
         hub.delete(3);
         hub.delete(2);
         Check.indexOut("a part of a good that was deleted can be deleted", () -> hub.told(2));
+        ShopHub bundles = hubWith(-1, -1);
+        bundles.addPart(1, 0, 1);
+        bundles.delete(1);
+        bundles.delete(0);
+        Check.indexOut("so can good 0", () -> bundles.told(0));
+        ShopHub turned = hubWith(-1, -1);
+        turned.move(0, 1);
+        Check.illegalState("delete of the parent of good 0", () -> turned.delete(1));
         ShopHub moved = hubWith(-1, 0);
         moved.move(1, -1);
         moved.delete(0);

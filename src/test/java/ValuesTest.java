@@ -234,6 +234,9 @@ public final class ValuesTest {
         Check.due(2, "the good and its child", () -> hub.complete(0));
         tell(hub, 1, 1, 0, 2, -1);
         Check.due(1, "the child is told empty for a tongue", () -> hub.complete(0));
+        tell(hub, 2, 1, -1, 1, 1);
+        tell(hub, 2, 1, -1, 2, 1);
+        Check.due(1, "tongue 0 alone is missing", () -> hub.complete(0));
         hub.toggleAsked(0, 1);
         Check.due(3, "not asked for any more", () -> hub.complete(0));
         hub.delete(2);
