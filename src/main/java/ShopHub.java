@@ -160,7 +160,7 @@ public final class ShopHub {
     private int levelOf(int good) {
         int level = -1;
         int at = good;
-        for (int step = 0; step < LEVELS && at != NONE; step++) {
+        for (int step = 0; step < LEVELS && isGood(at); step++) {
             level++;
             at = parents[at];
         }
@@ -170,7 +170,7 @@ public final class ShopHub {
     /** Whether a good (or NONE) is the top or below it. */
     private boolean isWithin(int good, int top) {
         int at = good;
-        for (int step = 0; step < LEVELS && at != NONE; step++) {
+        for (int step = 0; step < LEVELS && isGood(at); step++) {
             if (at == top) {
                 return true;
             }
@@ -269,8 +269,12 @@ public final class ShopHub {
         return today;
     }
 
+    private boolean isEntered(int draft) {
+        return draft >= 0 && draft < draftCount;
+    }
+
     private void checkDraft(int draft) {
-        if (draft < 0 || draft >= draftCount || draftStates[draft] == DELETED) {
+        if (!isEntered(draft) || draftStates[draft] == DELETED) {
             throw new IndexOutOfBoundsException("no such draft");
         }
     }
@@ -310,7 +314,7 @@ public final class ShopHub {
     private void putHolder(int draft) {
         int place = draftPlaces[draft];
         int rival = holders[place];
-        if (rival == NONE || draftDays[draft] >= draftDays[rival]) {
+        if (!isEntered(rival) || draftDays[draft] >= draftDays[rival]) {
             holders[place] = draft;
         }
     }
@@ -407,12 +411,12 @@ public final class ShopHub {
 
     private int findValue(int good, int attribute, int shop, int tongue) {
         int origin = findOrigin(good, attribute, shop, tongue);
-        return origin == NONE ? NONE : draftValues[origin];
+        return isEntered(origin) ? draftValues[origin] : NONE;
     }
 
     private int findOrigin(int good, int attribute, int shop, int tongue) {
         int at = good;
-        for (int step = 0; step < LEVELS && at != NONE; step++) {
+        for (int step = 0; step < LEVELS && isGood(at); step++) {
             int origin = findOwnOrigin(at, attribute, shop, tongue);
             if (origin != NONE) {
                 return origin;
