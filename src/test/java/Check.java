@@ -19,6 +19,11 @@ final class Check {
         promise = name;
     }
 
+    /** Names the sentence of ../shared/DOC.md, word by word, that the checks that follow are about. */
+    static void sentence(String where, String words) {
+        promise(where + ": " + words);
+    }
+
     static void due(Object want, String call, Call got) {
         String answer = answerOf(got);
         if (!answer.equals(String.valueOf(want))) {

@@ -13,20 +13,14 @@ public final class FeedsTest {
         Check.end();
     }
 
-    private static int tell(ShopHub hub, int good, int attribute, int shop, int tongue, int value) {
-        int draft = hub.draft(good, attribute, shop, tongue, value, 0);
-        hub.approve(draft);
-        return draft;
-    }
-
     private static void newGoods() {
         Check.promise("promises 18 and 19");
         ShopHub hub = new ShopHub();
         hub.addGood(-1);
         Check.due(0, "a good without values", () -> hub.changed(0));
-        tell(hub, 0, 1, -1, -1, -1);
+        Hubs.tell(hub, 0, 1, -1, -1, -1);
         Check.due(0, "a good that is told empty", () -> hub.changed(0));
-        tell(hub, 0, 2, -1, -1, 0);
+        Hubs.tell(hub, 0, 2, -1, -1, 0);
         Check.due(1, "value 0 is to be seen", () -> hub.changed(0));
         Check.due(1, "changed itself tells no shop", () -> hub.changed(0));
         Check.due(1, "feed", () -> hub.feed(0));
@@ -63,11 +57,11 @@ public final class FeedsTest {
             for (int tongue = 0; tongue < 3; tongue++) {
                 ShopHub hub = new ShopHub();
                 hub.addGood(-1);
-                tell(hub, 0, attribute, 2, tongue, 1);
+                Hubs.tell(hub, 0, attribute, 2, tongue, 1);
                 String sight = "attribute " + attribute + ", tongue " + tongue;
                 Check.due(1, sight, () -> hub.changed(2));
                 Check.due(1, sight, () -> hub.feed(2));
-                tell(hub, 0, attribute, 2, tongue, 2);
+                Hubs.tell(hub, 0, attribute, 2, tongue, 2);
                 Check.due(1, sight, () -> hub.feed(2));
                 Check.due(0, sight, () -> hub.feed(2));
             }
@@ -79,15 +73,15 @@ public final class FeedsTest {
         ShopHub hub = new ShopHub();
         hub.addGood(-1);
         hub.addGood(-1);
-        tell(hub, 0, 0, -1, -1, 5);
+        Hubs.tell(hub, 0, 0, -1, -1, 5);
         hub.addPart(1, 0, 2);
         Check.due(1, "a price of parts is not seen", () -> hub.feed(0));
-        tell(hub, 0, 0, 0, -1, 5);
+        Hubs.tell(hub, 0, 0, 0, -1, 5);
         Check.due(0, "the same value from another origin", () -> hub.changed(0));
         hub.toggleAsked(0, 0);
         hub.setDiscount(1, 5);
         Check.due(0, "asking and discounts are not seen", () -> hub.changed(0));
-        tell(hub, 0, 0, 0, 2, -1);
+        Hubs.tell(hub, 0, 0, 0, 2, -1);
         Check.due(1, "a tongue told empty", () -> hub.changed(0));
     }
 
@@ -95,17 +89,17 @@ public final class FeedsTest {
         Check.promise("promises 18 and 19");
         ShopHub hub = new ShopHub();
         hub.addGood(-1);
-        tell(hub, 0, 1, 1, -1, 5);
+        Hubs.tell(hub, 0, 1, 1, -1, 5);
         Check.due(0, "shop 0", () -> hub.changed(0));
         Check.due(1, "shop 1", () -> hub.changed(1));
         Check.due(0, "shop 2", () -> hub.changed(2));
-        tell(hub, 0, 1, -1, -1, 6);
+        Hubs.tell(hub, 0, 1, -1, -1, 6);
         Check.due(1, "feed of shop 0", () -> hub.feed(0));
         Check.due(1, "shop 1 is not fed by that", () -> hub.changed(1));
         Check.due(1, "shop 2 is not fed by that", () -> hub.changed(2));
         Check.due(1, "feed of shop 2", () -> hub.feed(2));
         Check.due(1, "feed of shop 1", () -> hub.feed(1));
-        tell(hub, 0, 1, 2, 0, 7);
+        Hubs.tell(hub, 0, 1, 2, 0, 7);
         Check.due(0, "shop 1 sees nothing of shop 2", () -> hub.changed(1));
         Check.due(1, "shop 2", () -> hub.changed(2));
     }
@@ -117,7 +111,7 @@ public final class FeedsTest {
         hub.addGood(0);
         hub.addGood(1);
         hub.addGood(-1);
-        tell(hub, 0, 1, -1, -1, 5);
+        Hubs.tell(hub, 0, 1, -1, -1, 5);
         Check.due(7, "the whole tree", () -> hub.changed(0));
         Check.due(3, "feed", () -> hub.feed(0));
         hub.move(1, 3);
@@ -135,7 +129,7 @@ public final class FeedsTest {
         hub.addGood(-1);
         hub.addGood(0);
         hub.addGood(-1);
-        tell(hub, 0, 1, -1, -1, 5);
+        Hubs.tell(hub, 0, 1, -1, -1, 5);
         hub.delete(2);
         Check.due(0, "a deleted good of which nothing was seen", () -> hub.changed(1) & 4);
         Check.due(2, "feed", () -> hub.feed(0));
@@ -154,7 +148,7 @@ public final class FeedsTest {
         ShopHub hub = new ShopHub();
         for (int good = 0; good < 16; good++) {
             hub.addGood(-1);
-            tell(hub, good, 5, -1, 2, good);
+            Hubs.tell(hub, good, 5, -1, 2, good);
         }
         Check.due(65535, "changed", () -> hub.changed(2));
         Check.due(16, "feed", () -> hub.feed(2));
@@ -167,7 +161,7 @@ public final class FeedsTest {
         Check.promise("promise 18");
         ShopHub hub = new ShopHub();
         hub.addGood(-1);
-        tell(hub, 0, 1, -1, -1, 5);
+        Hubs.tell(hub, 0, 1, -1, -1, 5);
         Check.indexOut("changed(-1)", () -> hub.changed(-1));
         Check.indexOut("changed(3)", () -> hub.changed(3));
         Check.indexOut("changed(MAX)", () -> hub.changed(Integer.MAX_VALUE));

@@ -20,14 +20,6 @@ public final class GoodsTest {
         Check.end();
     }
 
-    private static ShopHub hubWith(int... parents) {
-        ShopHub hub = new ShopHub();
-        for (int parent : parents) {
-            hub.addGood(parent);
-        }
-        return hub;
-    }
-
     private static void newObject() {
         Check.promise("promise 1");
         ShopHub hub = new ShopHub();
@@ -60,7 +52,7 @@ public final class GoodsTest {
 
     private static void addGoodRefuses() {
         Check.promise("promise 2");
-        ShopHub hub = hubWith(-1, 0, 1);
+        ShopHub hub = Hubs.of(-1, 0, 1);
         Check.illegalState("addGood at level 3", () -> hub.addGood(2));
         Check.indexOut("addGood(3)", () -> hub.addGood(3));
         Check.indexOut("addGood(-2)", () -> hub.addGood(-2));
@@ -89,7 +81,7 @@ public final class GoodsTest {
 
     private static void moveChangesTheParent() {
         Check.promise("promise 3");
-        ShopHub hub = hubWith(-1, -1, 0);
+        ShopHub hub = Hubs.of(-1, -1, 0);
         hub.draft(0, 1, -1, -1, 10, 0);
         hub.draft(1, 1, -1, -1, 11, 0);
         hub.approve(0);
@@ -106,7 +98,7 @@ public final class GoodsTest {
 
     private static void moveRefusesLoops() {
         Check.promise("promise 3");
-        ShopHub hub = hubWith(-1, 0, 1, -1);
+        ShopHub hub = Hubs.of(-1, 0, 1, -1);
         Check.illegalState("below itself", () -> hub.move(0, 0));
         Check.illegalState("below its child", () -> hub.move(0, 1));
         Check.illegalState("below its grandchild", () -> hub.move(0, 2));
@@ -119,23 +111,23 @@ public final class GoodsTest {
 
     private static void moveRefusesDepth() {
         Check.promise("promise 3");
-        ShopHub hub = hubWith(-1, 0, 1, -1, 3, -1);
+        ShopHub hub = Hubs.of(-1, 0, 1, -1, 3, -1);
         Check.illegalState("a good to level 3", () -> hub.move(5, 2));
         Check.due(-1, "a good to level 2", () -> hub.move(5, 1));
         Check.illegalState("a good with a child to level 2", () -> hub.move(3, 1));
         Check.due(-1, "a good with a child to level 1", () -> hub.move(3, 0));
         Check.illegalState("a good with a grandchild to level 1", () -> {
-            ShopHub deep = hubWith(-1, 0, 1, -1);
+            ShopHub deep = Hubs.of(-1, 0, 1, -1);
             deep.move(0, 3);
         });
         Check.due(0, "a good with a child up to level 0", () -> hub.move(1, -1));
         Check.illegalState("a leaf below a leaf at level 2", () -> hub.move(2, 4));
         Check.due(1, "a leaf from a tree to another", () -> hub.move(2, 3));
-        ShopHub turned = hubWith(-1, -1, -1, 2);
+        ShopHub turned = Hubs.of(-1, -1, -1, 2);
         turned.move(0, 1);
         Check.illegalState("good 0 below counts too", () -> turned.move(1, 3));
         Check.due(-1, "one level higher it fits", () -> turned.move(1, 2));
-        ShopHub wide = hubWith(-1, 0, 0, 2, -1);
+        ShopHub wide = Hubs.of(-1, 0, 0, 2, -1);
         Check.illegalState("the deepest of several children counts", () -> wide.move(0, 4));
         wide.delete(3);
         Check.due(-1, "a deleted good does not count", () -> wide.move(0, 4));
@@ -143,7 +135,7 @@ public final class GoodsTest {
 
     private static void moveOrderOfExceptions() {
         Check.promise("promise 3");
-        ShopHub hub = hubWith(-1, -1);
+        ShopHub hub = Hubs.of(-1, -1);
         Check.indexOut("move(2, 0)", () -> hub.move(2, 0));
         Check.indexOut("move(-1, 0)", () -> hub.move(-1, 0));
         Check.indexOut("move(-1, -1)", () -> hub.move(-1, -1));
@@ -159,7 +151,7 @@ public final class GoodsTest {
 
     private static void delete() {
         Check.promise("promise 4");
-        ShopHub hub = hubWith(-1, 0, -1, -1);
+        ShopHub hub = Hubs.of(-1, 0, -1, -1);
         hub.addPart(3, 2, 1);
         Check.indexOut("delete(-1)", () -> hub.delete(-1));
         Check.indexOut("delete(4)", () -> hub.delete(4));
@@ -174,15 +166,15 @@ public final class GoodsTest {
         hub.delete(3);
         hub.delete(2);
         Check.indexOut("a part of a good that was deleted can be deleted", () -> hub.told(2));
-        ShopHub bundles = hubWith(-1, -1);
+        ShopHub bundles = Hubs.of(-1, -1);
         bundles.addPart(1, 0, 1);
         bundles.delete(1);
         bundles.delete(0);
         Check.indexOut("so can good 0", () -> bundles.told(0));
-        ShopHub turned = hubWith(-1, -1);
+        ShopHub turned = Hubs.of(-1, -1);
         turned.move(0, 1);
         Check.illegalState("delete of the parent of good 0", () -> turned.delete(1));
-        ShopHub moved = hubWith(-1, 0);
+        ShopHub moved = Hubs.of(-1, 0);
         moved.move(1, -1);
         moved.delete(0);
         Check.indexOut("a good that is a parent no more can be deleted", () -> moved.told(0));
@@ -190,7 +182,7 @@ public final class GoodsTest {
 
     private static void deleteForgetsEverything() {
         Check.promise("promise 4");
-        ShopHub hub = hubWith(-1, -1);
+        ShopHub hub = Hubs.of(-1, -1);
         hub.draft(1, 0, -1, -1, 7, 0);
         hub.draft(1, 0, 0, 0, 8, 0);
         hub.draft(0, 0, -1, -1, 9, 0);
@@ -214,7 +206,7 @@ public final class GoodsTest {
 
     private static void addPart() {
         Check.promise("promise 5");
-        ShopHub hub = hubWith(-1, -1, -1);
+        ShopHub hub = Hubs.of(-1, -1, -1);
         Check.due(1, "addPart(1, 0, 1)", () -> hub.addPart(1, 0, 1));
         Check.due(4, "addPart(1, 0, 3)", () -> hub.addPart(1, 0, 3));
         Check.due(20, "addPart up to 20", () -> hub.addPart(1, 0, 16));
@@ -223,13 +215,13 @@ public final class GoodsTest {
         Check.due(5, "each part has a quantity of its own", () -> hub.addPart(2, 1, 5));
         Check.illegalState("5 and 16", () -> hub.addPart(2, 1, 16));
         Check.due(20, "a refusal changes nothing: 5 and 15", () -> hub.addPart(2, 1, 15));
-        ShopHub family = hubWith(-1, 0);
+        ShopHub family = Hubs.of(-1, 0);
         Check.due(2, "a parent can be a part", () -> family.addPart(1, 0, 2));
     }
 
     private static void addPartRefuses() {
         Check.promise("promise 5");
-        ShopHub hub = hubWith(-1, -1, -1);
+        ShopHub hub = Hubs.of(-1, -1, -1);
         Check.indexOut("no good 3", () -> hub.addPart(3, 0, 1));
         Check.indexOut("no part 3", () -> hub.addPart(1, 3, 1));
         Check.indexOut("no part -1", () -> hub.addPart(1, -1, 1));
@@ -253,7 +245,7 @@ public final class GoodsTest {
 
     private static void setDiscount() {
         Check.promise("promise 6");
-        ShopHub hub = hubWith(-1, -1);
+        ShopHub hub = Hubs.of(-1, -1);
         Check.due(0, "setDiscount(0, 100)", () -> hub.setDiscount(0, 100));
         Check.due(100, "setDiscount(0, 0)", () -> hub.setDiscount(0, 0));
         Check.due(0, "setDiscount(0, 55)", () -> hub.setDiscount(0, 55));
